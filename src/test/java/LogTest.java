@@ -1,12 +1,5 @@
 /** Promises 23 to 25: fetch, back, where. */
-public final class LogTest {
-    private static final int SERIES = 0;
-    private static final int BOX = 1;
-    private static final int FOLDER = 2;
-    private static final int ITEM = 3;
-    private static final int LOOSE_ITEM = 4;
-    private static final int NO_THING = 5;
-
+public final class LogTest extends SmallArchive {
     private static final Checks c = new Checks();
 
     public static void main(String[] args) {
@@ -18,16 +11,6 @@ public final class LogTest {
         whereRefused();
         fullLog();
         c.end();
-    }
-
-    private static BoxArchive small() {
-        BoxArchive x = new BoxArchive();
-        x.thing(0, -1);
-        x.thing(1, SERIES);
-        x.thing(2, BOX);
-        x.thing(3, FOLDER);
-        x.thing(3, BOX);
-        return x;
     }
 
     private static void ordinary() {

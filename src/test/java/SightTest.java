@@ -1,13 +1,8 @@
 /** Promises 17 to 22: close, sees, number, find, mark, walk. */
-public final class SightTest {
-    private static final int SERIES = 0;
-    private static final int BOX = 1;
-    private static final int FOLDER = 2;
-    private static final int ITEM = 3;
-    private static final int LOOSE_ITEM = 4;
-    private static final int OTHER_BOX = 5;
-    private static final int OTHER_ITEM = 6;
-    private static final int NO_THING = 7;
+public final class SightTest extends SmallArchive {
+    private static final int OTHER_BOX = NO_THING;
+    private static final int OTHER_ITEM = NO_THING + 1;
+    private static final int NO_THING_EITHER = NO_THING + 2;
 
     private static final Checks c = new Checks();
 
@@ -26,23 +21,19 @@ public final class SightTest {
         mark();
         walk();
         walkRefused();
+        fullArchive();
         c.end();
     }
 
-    private static BoxArchive small() {
-        BoxArchive x = new BoxArchive();
-        x.thing(0, -1);
-        x.thing(1, SERIES);
-        x.thing(2, BOX);
-        x.thing(3, FOLDER);
-        x.thing(3, BOX);
+    private static BoxArchive twoBoxes() {
+        BoxArchive x = small();
         x.thing(1, SERIES);
         x.thing(3, OTHER_BOX);
         return x;
     }
 
     private static void close() {
-        BoxArchive x = small();
+        BoxArchive x = twoBoxes();
         c.gives("18: not CLOSED", x, x.sees(ITEM, 15, 0), 1);
         c.does("17: but for some", x, x.close(ITEM, 100, 1 | 1 << 15));
         for (int person = 0; person < 16; person++) {
@@ -63,7 +54,7 @@ public final class SightTest {
     }
 
     private static void closeInLine() {
-        BoxArchive x = small();
+        BoxArchive x = twoBoxes();
         x.close(BOX, 50, 1 << 1 | 1 << 2);
         x.close(ITEM, 80, 1 << 1);
         c.gives("18: a part of what is CLOSED", x, x.sees(FOLDER, 0, 49), 0);
@@ -76,9 +67,9 @@ public final class SightTest {
     }
 
     private static void closeRefused() {
-        BoxArchive x = small();
+        BoxArchive x = twoBoxes();
         x.close(ITEM, 10, 1);
-        c.refuses("17: no such THING", x, x.close(NO_THING, 1, 0), 2);
+        c.refuses("17: no such THING", x, x.close(NO_THING_EITHER, 1, 0), 2);
         c.refuses("17: no such THING below, ahead of 5", x, x.close(-1, 200_001, 0), 2);
         c.refuses("17: a day too late", x, x.close(ITEM, 200_001, 0), 5);
         c.refuses("17: a day too early", x, x.close(ITEM, -2, 0), 5);
@@ -89,8 +80,8 @@ public final class SightTest {
     }
 
     private static void seesRefused() {
-        BoxArchive x = small();
-        c.refuses("18: no such THING", x, x.sees(NO_THING, 0, 0), 2);
+        BoxArchive x = twoBoxes();
+        c.refuses("18: no such THING", x, x.sees(NO_THING_EITHER, 0, 0), 2);
         c.refuses("18: no such PERSON", x, x.sees(0, 16, 0), 2);
         c.refuses("18: no such PERSON below", x, x.sees(0, -1, 0), 2);
         c.refuses("18: a day below 0", x, x.sees(0, 0, -1), 5);
@@ -99,7 +90,7 @@ public final class SightTest {
     }
 
     private static void numberByLevel() {
-        BoxArchive x = small();
+        BoxArchive x = twoBoxes();
         int[][] want = {
             {1, 2, 1, 3},
             {0, 1, 1, 2},
@@ -122,7 +113,7 @@ public final class SightTest {
     }
 
     private static void numberOfPieces() {
-        BoxArchive x = small();
+        BoxArchive x = twoBoxes();
         x.join(ITEM, OTHER_ITEM);
         c.gives("19: a PIECE in two BOXES", x, x.number(SERIES, 3, 0, 0), 2);
         c.gives("19: in the one", x, x.number(BOX, 3, 0, 0), 2);
@@ -135,7 +126,7 @@ public final class SightTest {
     }
 
     private static void numberOfCounts() {
-        BoxArchive x = small();
+        BoxArchive x = twoBoxes();
         x.thing(2, OTHER_BOX);
         x.count(FOLDER, 999);
         x.count(7, 20);
@@ -154,8 +145,8 @@ public final class SightTest {
     }
 
     private static void numberRefused() {
-        BoxArchive x = small();
-        c.refuses("19: no such THING", x, x.number(NO_THING, 0, 0, 0), 2);
+        BoxArchive x = twoBoxes();
+        c.refuses("19: no such THING", x, x.number(NO_THING_EITHER, 0, 0, 0), 2);
         c.refuses("19: no such PERSON", x, x.number(0, 0, 16, 0), 2);
         c.refuses("19: no such PERSON, ahead of 5", x, x.number(0, 4, -1, 0), 2);
         c.refuses("19: no such LEVEL", x, x.number(0, 4, 0, 0), 5);
@@ -166,7 +157,7 @@ public final class SightTest {
     }
 
     private static void find() {
-        BoxArchive x = small();
+        BoxArchive x = twoBoxes();
         x.tray(0, 0, 5);
         c.gives("20: none", x, x.find(0, 7, 0, 0, 0), 0);
         x.say(SERIES, 0, 7);
@@ -187,7 +178,7 @@ public final class SightTest {
     }
 
     private static void findFillsTheTray() {
-        BoxArchive x = small();
+        BoxArchive x = twoBoxes();
         x.say(SERIES, 0, 999);
         x.tray(0, 3, 5);
         x.tray(1, 1, 2);
@@ -206,7 +197,7 @@ public final class SightTest {
     }
 
     private static void findRefused() {
-        BoxArchive x = small();
+        BoxArchive x = twoBoxes();
         x.say(SERIES, 0, 4);
         x.tray(0, 2, 1);
         x.write(0, 0, 77);
@@ -226,14 +217,14 @@ public final class SightTest {
     }
 
     private static void mark() {
-        BoxArchive x = small();
+        BoxArchive x = twoBoxes();
         c.does("21: the least", x, x.mark(SERIES, 0));
         c.does("21: the greatest", x, x.mark(ITEM, 9_999));
         c.gives("21: the greatest", x, x.told(ITEM, 6), 9_999);
         c.refuses("21: another one has it", x, x.mark(BOX, 0), 10);
         c.gives("21: none came", x, x.told(BOX, 6), -1);
         c.does("21: its own again", x, x.mark(SERIES, 0));
-        c.refuses("21: no such THING", x, x.mark(NO_THING, 1), 2);
+        c.refuses("21: no such THING", x, x.mark(NO_THING_EITHER, 1), 2);
         c.refuses("21: no such THING, ahead of 5", x, x.mark(-1, 10_000), 2);
         c.refuses("21: too great", x, x.mark(BOX, 10_000), 5);
         c.refuses("21: too little", x, x.mark(BOX, -2), 5);
@@ -252,7 +243,7 @@ public final class SightTest {
     }
 
     private static void walk() {
-        BoxArchive x = small();
+        BoxArchive x = twoBoxes();
         walkIs("22: none has a mark", x, 0, 0);
         x.mark(ITEM, 30);
         x.mark(SERIES, 9_999);
@@ -270,7 +261,7 @@ public final class SightTest {
     }
 
     private static void walkRefused() {
-        BoxArchive x = small();
+        BoxArchive x = twoBoxes();
         x.mark(ITEM, 1);
         c.refuses("22: no such PERSON", x, x.walk(0, 16, 0), 2);
         c.refuses("22: no such PERSON, ahead of 5", x, x.walk(-1, -1, -1), 2);
@@ -278,5 +269,34 @@ public final class SightTest {
         c.refuses("22: a day below 0", x, x.walk(0, 0, -1), 5);
         c.refuses("22: a day too late, ahead of 9", x, x.walk(1, 0, 300_001), 5);
         c.refuses("22: the greatest k", x, x.walk(Integer.MAX_VALUE, 0, 0), 9);
+    }
+
+    /** As many THINGS as can be: a SERIES, a BOX and 78 ITEMS, with OLD MARKS against their numbers. */
+    private static void fullArchive() {
+        BoxArchive x = new BoxArchive();
+        x.thing(0, -1);
+        x.thing(1, SERIES);
+        for (int i = 2; i < 80; i++) {
+            x.thing(3, BOX);
+        }
+        for (int i = 0; i < 80; i++) {
+            x.mark(i, 79 - i);
+        }
+        x.say(SERIES, 5, 1);
+        x.span(0, 5, 6);
+        x.span(79, 4, 6);
+        x.tray(0, 0, 40);
+        c.gives("8: right in the BOX", x, x.told(BOX, 2), 78);
+        c.gives("13: of the BOX", x, x.held(BOX, false), 4);
+        c.gives("14: the last THING", x, x.quarrel(0), 79);
+        c.gives("19: ITEMS", x, x.number(SERIES, 3, 0, 0), 78);
+        c.does("16: the last two", x, x.join(79, 78));
+        c.gives("19: ITEMS, two being one", x, x.number(SERIES, 3, 0, 0), 77);
+        c.gives("20: all", x, x.find(5, 1, 0, 0, 0), 78);
+        c.gives("20: the last place", x, x.read(0, 39), 41);
+        c.gives("22: the first", x, x.walk(0, 0, 0), 79);
+        c.gives("22: the last", x, x.walk(79, 0, 0), 0);
+        c.refuses("22: none behind", x, x.walk(80, 0, 0), 9);
+        c.refuses("21: another one has it", x, x.mark(0, 0), 10);
     }
 }

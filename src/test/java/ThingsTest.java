@@ -1,11 +1,5 @@
 /** Promises 7 to 16: thing, told, say, has, span, noSpan, held, quarrel, count, join. */
-public final class ThingsTest {
-    private static final int SERIES = 0;
-    private static final int BOX = 1;
-    private static final int FOLDER = 2;
-    private static final int ITEM = 3;
-    private static final int LOOSE_ITEM = 4;
-
+public final class ThingsTest extends SmallArchive {
     private static final Checks c = new Checks();
 
     public static void main(String[] args) {
@@ -24,17 +18,6 @@ public final class ThingsTest {
         count();
         join();
         c.end();
-    }
-
-    /** THING 0 is a SERIES, 1 a BOX in it, 2 a FOLDER in that, 3 an ITEM in that, 4 an ITEM in the BOX. */
-    private static BoxArchive small() {
-        BoxArchive x = new BoxArchive();
-        x.thing(0, -1);
-        x.thing(1, SERIES);
-        x.thing(2, BOX);
-        x.thing(3, FOLDER);
-        x.thing(3, BOX);
-        return x;
     }
 
     private static void levels() {
