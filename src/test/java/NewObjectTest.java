@@ -49,6 +49,7 @@ public final class NewObjectTest {
         newObject();
         status();
         objectsAreApart();
+        lastPromisedCall();
         face();
         c.end();
     }
@@ -80,6 +81,9 @@ public final class NewObjectTest {
         c.due("2: calls without a STATUS leave it", x.status(), 1);
         x.plan();
         c.due("2: the next call that has one", x.status(), 0);
+        x.read(0, 0);
+        x.thing(9, 9);
+        c.due("2: of two that were refused the latest", x.status(), 5);
     }
 
     private static void objectsAreApart() {
@@ -90,6 +94,18 @@ public final class NewObjectTest {
         c.refuses("1: another object's THINGS", y, y.told(0, 0), 2);
         c.refuses("1: another object's TRAYS", y, y.read(0, 0), 3);
         c.due("2: another object's STATUS", x.status(), 0);
+    }
+
+    /** "An object is used for at most 512 calls": the 512th is one of them. */
+    private static void lastPromisedCall() {
+        BoxArchive x = new BoxArchive();
+        x.thing(0, -1);
+        for (int call = 2; call < 510; call++) {
+            c.due("1: call " + call, x.say(0, 5, call % 1_000) ? 1 : 0, 1);
+        }
+        c.due("2: call 510", x.status(), 0);
+        c.due("10: call 511", x.has(0, 5), 509);
+        c.due("7: call 512", x.thing(1, 0), 1);
     }
 
     private static void face() {

@@ -12,9 +12,9 @@ import java.util.TreeSet;
  * A call tells its answer (a boolean as 1 or 0); which STATUSES hold is collected, and the first of them counts.
  */
 final class PlainArchive {
-    int status = 0;
-    long upper = 0;
-    long lower = 1;
+    private int status = 0;
+    private long upper = 0;
+    private long lower = 1;
 
     private final List<List<Long>> trays = new ArrayList<>(Arrays.asList(null, null, null, null));
     private final int[] sorts = new int[4];
@@ -61,6 +61,18 @@ final class PlainArchive {
             }
             return null;
         }
+    }
+
+    long status() {
+        return status;
+    }
+
+    long upper() {
+        return upper;
+    }
+
+    long lower() {
+        return lower;
     }
 
     private void when(boolean holds, int why) {

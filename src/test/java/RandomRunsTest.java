@@ -43,9 +43,9 @@ public final class RandomRunsTest {
             next();
             String what = "run " + seed + ", call " + i + ", " + call;
             c.due(what, got, want);
-            c.due(what + ", its STATUS", x.status(), y.status);
-            c.due(what + ", upper", x.upper(), y.upper);
-            c.due(what + ", lower", x.lower(), y.lower);
+            c.due(what + ", its STATUS", x.status(), y.status());
+            c.due(what + ", upper", x.upper(), y.upper());
+            c.due(what + ", lower", x.lower(), y.lower());
         }
     }
 

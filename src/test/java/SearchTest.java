@@ -8,7 +8,11 @@ public final class SearchTest {
     public static void main(String[] args) {
         ordinary();
         likePlaces();
+        allAlike();
+        almostLike();
         mostPlaces();
+        fractionWithoutCommonDivisor();
+        fractionOfEveryPlace();
         refused();
         numbersThatCannotBe();
         fractionStaysWhenRefused();
@@ -51,6 +55,59 @@ public final class SearchTest {
         BoxArchive x = new BoxArchive();
         row(x, 0, 1, 2, 4, 999, 999, 1, 2, 3, 6, 5, 5);
         orderIs("31: of like ones the lesser number ahead", x, 0, 1, 4, 0, 2, 3);
+    }
+
+    private static void allAlike() {
+        for (int v : new int[] {1, 999}) {
+            int[] numbers = new int[40];
+            int[] want = new int[20];
+            for (int i = 0; i < 20; i++) {
+                numbers[2 * i] = v;
+                numbers[2 * i + 1] = v;
+                want[i] = i;
+            }
+            BoxArchive x = new BoxArchive();
+            row(x, 0, 1, numbers);
+            orderIs("31: all alike", x, 0, want);
+            meanIs("v * 210 by 20", x, v * 21, 2);
+        }
+    }
+
+    /** 997 by 998 is less than 998 by 999, by a millionth. */
+    private static void almostLike() {
+        BoxArchive x = new BoxArchive();
+        row(x, 0, 1, 999, 998, 998, 997);
+        orderIs("31: a millionth less is ahead", x, 0, 1, 0);
+        row(x, 0, 1, 998, 997, 999, 998);
+        orderIs("31: a millionth less is ahead", x, 0, 0, 1);
+        row(x, 0, 1, 1, 999, 999, 1, 1, 1, 999, 999);
+        orderIs("31: from end to end", x, 0, 1, 2, 3, 0);
+    }
+
+    /** "an upper and a lower number without a common divisor". */
+    private static void fractionWithoutCommonDivisor() {
+        int[][] rows = {
+            {1, 1, 1, 1}, {999, 1, 1, 1}, {1, 999, 999, 1}, {6, 4, 4, 6, 2, 2}, {7, 7}, {3, 1, 3, 1}, {5, 2, 5, 3}, {1, 1, 2, 2},
+        };
+        long[][] means = {
+            {3, 2}, {1001, 1000}, {1999, 1000}, {7, 1}, {7, 1}, {3, 2}, {7, 2}, {7, 3},
+        };
+        for (int i = 0; i < rows.length; i++) {
+            BoxArchive x = new BoxArchive();
+            row(x, 0, 2, rows[i]);
+            c.gives("31: row " + i, x, x.search(0, rows[i].length / 2, 0) >= 0 ? 1 : 0, 1);
+            meanIs("row " + i, x, means[i][0], means[i][1]);
+        }
+    }
+
+    /** The FRACTION is the mean of the whole SEARCH, whichever place is asked for. */
+    private static void fractionOfEveryPlace() {
+        for (int k = 0; k < 3; k++) {
+            BoxArchive x = new BoxArchive();
+            row(x, 0, 2, 1, 10, 5, 10, 5, 1);
+            x.search(0, 3, k);
+            meanIs("k " + k, x, 81, 11);
+        }
     }
 
     private static void mostPlaces() {

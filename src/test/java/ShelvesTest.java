@@ -22,7 +22,13 @@ public final class ShelvesTest {
         goalEmptyIsAhead();
         leastAstrayToLeastEmpty();
         othersStayWhereTheyWere();
+        leastWithAnEmptyGoal();
+        lookedAtAnewBehindEachCarry();
+        leastEmptyPlaceAtBothEnds();
+        leastAstrayPassesOthersOver();
+        goalOfOneThatStandsInNone();
         cannotMove();
+        cannotMoveForOneOfMany();
         fullShelves();
         longestPlan();
         carryRefused();
@@ -174,6 +180,86 @@ public final class ShelvesTest {
         planIs("28: around BOXES without GOALS", x, carry(1, 7, 3), carry(2, 8, 7), carry(1, 3, 8));
         c.does("30: around them", x, x.carried());
         standIn("30: others are where they were", x, 8, 7, 0, 1, 2);
+    }
+
+    /** "the least such is carried to it": by its number, not by its PLACE or its GOAL. */
+    private static void leastWithAnEmptyGoal() {
+        BoxArchive x = shelves(new int[] {39, 20, 0}, new int[] {30, 10, 1});
+        planIs("28: three with empty GOALS", x, carry(1, 39, 30), carry(2, 20, 10), carry(3, 0, 1));
+        x = shelves(new int[] {0, 1, 39}, new int[] {1, 0, 38});
+        planIs("28: an empty GOAL ahead of a lesser BOX", x,
+            carry(3, 39, 38), carry(1, 0, 2), carry(2, 1, 0), carry(1, 2, 1));
+    }
+
+    private static void lookedAtAnewBehindEachCarry() {
+        BoxArchive x = shelves(new int[] {0, 1, 10, 5}, new int[] {1, 2, 11, 0});
+        planIs("28: a lesser BOX whose GOAL has become empty is ahead", x,
+            carry(2, 1, 2), carry(1, 0, 1), carry(3, 10, 11), carry(4, 5, 0));
+        x = shelves(new int[] {5, 0, 1}, new int[] {6, 1, 0});
+        planIs("28: a ring behind a single one", x,
+            carry(1, 5, 6), carry(2, 0, 2), carry(3, 1, 0), carry(2, 2, 1));
+    }
+
+    private static void leastEmptyPlaceAtBothEnds() {
+        BoxArchive x = shelves(new int[] {1, 2}, new int[] {2, 1});
+        planIs("28: PLACE 0 is the least", x, carry(1, 1, 0), carry(2, 2, 1), carry(1, 0, 2));
+        x = boxes(PLACES);
+        for (int box = 1; box < PLACES; box++) {
+            x.stand(box, box - 1);
+        }
+        x.goal(3, 38);
+        x.goal(39, 2);
+        planIs("28: PLACE 39 is the only one", x, carry(3, 2, 39), carry(39, 38, 2), carry(3, 39, 38));
+    }
+
+    /** BOX 1 is at its GOAL, 2 has none, 3 stands in none; only then come 4 and 5. */
+    private static void leastAstrayPassesOthersOver() {
+        BoxArchive x = boxes(5);
+        x.stand(1, 0);
+        x.goal(1, 0);
+        x.stand(2, 1);
+        x.goal(3, 2);
+        x.stand(4, 8);
+        x.stand(5, 9);
+        x.goal(4, 9);
+        x.goal(5, 8);
+        planIs("28: the least that is not at its GOAL", x, carry(4, 8, 2), carry(5, 9, 8), carry(4, 2, 9));
+        c.does("30: the others stay", x, x.carried());
+        standIn("30: the others stay", x, 0, 1, -1, 9, 8);
+    }
+
+    /** Its GOAL is empty like others, and one that stands there is not in its way. */
+    private static void goalOfOneThatStandsInNone() {
+        BoxArchive x = boxes(3);
+        x.goal(1, 0);
+        x.stand(2, 5);
+        x.stand(3, 6);
+        x.goal(2, 6);
+        x.goal(3, 5);
+        planIs("28: over the GOAL of one that stands in none", x, carry(2, 5, 0), carry(3, 6, 5), carry(2, 0, 6));
+        x.stand(1, 7);
+        planIs("28: it stands now", x, carry(1, 7, 0), carry(2, 5, 1), carry(3, 6, 5), carry(2, 1, 6));
+    }
+
+    /** The first two could be carried, but a MOVE is for all that have a GOAL and stand. */
+    private static void cannotMoveForOneOfMany() {
+        BoxArchive x = shelves(new int[] {0, 1, 2}, new int[] {10, 11, 12});
+        x.thing(1, 0);
+        for (int place = 10; place < 13; place++) {
+            x.stand(4, place);
+            c.refuses("28: one without a GOAL in PLACE " + place, x, x.plan(), 12);
+            c.refuses("29: one without a GOAL in PLACE " + place, x, x.carry(0, 0), 12);
+        }
+        x.stand(4, 13);
+        c.gives("28: it is in no one's way", x, x.plan(), 3);
+        x.stand(4, 12);
+        x.goal(4, 13);
+        c.gives("28: it has a GOAL of its own", x, x.plan(), 4);
+        x.goal(4, -1);
+        x.goal(3, 2);
+        c.gives("28: no one's GOAL any more", x, x.plan(), 2);
+        x.goal(4, 12);
+        c.gives("28: at its GOAL", x, x.plan(), 2);
     }
 
     private static void cannotMove() {

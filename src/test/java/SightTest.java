@@ -8,6 +8,8 @@ public final class SightTest extends SmallArchive {
 
     public static void main(String[] args) {
         close();
+        everyPersonAlone();
+        dayByDay();
         closeInLine();
         closeRefused();
         seesRefused();
@@ -51,6 +53,40 @@ public final class SightTest extends SmallArchive {
         c.gives("18: not any more", x, x.sees(ITEM, 0, 0), 1);
         c.does("17: until day 0", x, x.close(ITEM, 0, 0));
         c.gives("18: day 0 is not behind it", x, x.sees(ITEM, 0, 0), 1);
+    }
+
+    /** "1 for PERSON 0, 2 for 1, 4 for 2 ..". */
+    private static void everyPersonAlone() {
+        for (int but = 0; but < 16; but++) {
+            BoxArchive x = small();
+            x.close(ITEM, 1, 1 << but);
+            for (int person = 0; person < 16; person++) {
+                c.gives("18: PERSON " + person + " but for " + but, x, x.sees(ITEM, person, 0), person == but ? 1 : 0);
+            }
+            x.close(ITEM, 1, 65_535 - (1 << but));
+            c.gives("18: but for all other than " + but, x, x.sees(ITEM, but, 0), 0);
+        }
+    }
+
+    /** CLOSED ones are SEEN from that day on: "until a day that is not behind that". */
+    private static void dayByDay() {
+        for (int day : new int[] {1, 2, 100_000, 199_999, 200_000}) {
+            BoxArchive x = small();
+            x.close(BOX, day, 0);
+            x.mark(ITEM, 0);
+            x.say(BOX, 0, 0);
+            x.tray(0, 0, 1);
+            for (int at : new int[] {day - 1, day, day + 1}) {
+                int seen = at < day ? 0 : 1;
+                c.gives("18: until " + day + ", on " + at, x, x.sees(ITEM, 0, at), seen);
+                c.gives("19: until " + day + ", on " + at, x, x.number(SERIES, 3, 0, at), 2 * seen);
+                c.gives("20: until " + day + ", on " + at, x, x.find(0, 0, 0, at, 0), 2 * seen);
+                c.due("22: until " + day + ", on " + at, x.walk(0, 0, at), seen == 1 ? ITEM : -1);
+            }
+        }
+        BoxArchive x = small();
+        x.close(ITEM, 0, 0);
+        c.gives("18: until day 0, on it", x, x.sees(ITEM, 0, 0), 1);
     }
 
     private static void closeInLine() {

@@ -13,6 +13,8 @@ public final class ThingsTest extends SmallArchive {
         spanRefused();
         noSpan();
         held();
+        heldFromDayZero();
+        heldOverThreeLevels();
         quarrel();
         quarrelSkipsUntoldOnes();
         count();
@@ -186,6 +188,37 @@ public final class ThingsTest extends SmallArchive {
         c.refuses("13: a part doesn't take the whole's", x, x.held(ITEM, true), 9);
     }
 
+    /** Day 0 is a day like others, whichever of the parts has it. */
+    private static void heldFromDayZero() {
+        for (int first : new int[] {ITEM, LOOSE_ITEM}) {
+            BoxArchive x = small();
+            x.span(first, 0, 0);
+            c.gives("13: day 0 alone, its beginning", x, x.held(BOX, false), 0);
+            c.gives("13: day 0 alone, its end", x, x.held(BOX, true), 0);
+            x.span(ITEM + LOOSE_ITEM - first, 7, 8);
+            c.gives("13: with a later one, its beginning", x, x.held(BOX, false), 0);
+            c.gives("13: with a later one, its end", x, x.held(BOX, true), 8);
+        }
+    }
+
+    /** "the least that holds the HELD ones of those right in it": neither wider, nor narrower, nor by one part alone. */
+    private static void heldOverThreeLevels() {
+        BoxArchive x = small();
+        x.span(ITEM, 40, 60);
+        c.gives("13: from the ITEM up to the SERIES", x, x.held(SERIES, false), 40);
+        x.span(LOOSE_ITEM, 45, 50);
+        c.gives("13: one lies within the other, its beginning", x, x.held(SERIES, false), 40);
+        c.gives("13: one lies within the other, its end", x, x.held(SERIES, true), 60);
+        x.span(LOOSE_ITEM, 90, 100_000);
+        c.gives("13: apart from each other, its beginning", x, x.held(SERIES, false), 40);
+        c.gives("13: apart from each other, its end", x, x.held(SERIES, true), 100_000);
+        x.span(BOX, 70, 71);
+        c.gives("13: the BOX hides both, its beginning", x, x.held(SERIES, false), 70);
+        c.gives("13: the BOX hides both, its end", x, x.held(SERIES, true), 71);
+        x.noSpan(BOX);
+        c.gives("13: told no more, it hides none", x, x.held(SERIES, true), 100_000);
+    }
+
     private static void quarrel() {
         BoxArchive x = small();
         c.refuses("14: k below 0", x, x.quarrel(-1), 5);
@@ -198,6 +231,12 @@ public final class ThingsTest extends SmallArchive {
         c.gives("14: begins too early", x, x.quarrel(0), FOLDER);
         x.span(FOLDER, 10, 21);
         c.gives("14: ends too late", x, x.quarrel(0), FOLDER);
+        x.span(FOLDER, 10, 10);
+        c.refuses("14: the first day alone lies within", x, x.quarrel(0), 9);
+        x.span(FOLDER, 20, 20);
+        c.refuses("14: the last day alone lies within", x, x.quarrel(0), 9);
+        x.span(FOLDER, 9, 21);
+        c.gives("14: both too early and too late", x, x.quarrel(0), FOLDER);
         x.span(LOOSE_ITEM, 30, 40);
         c.gives("14: wholly outside", x, x.quarrel(1), LOOSE_ITEM);
         c.refuses("14: no third", x, x.quarrel(2), 9);
