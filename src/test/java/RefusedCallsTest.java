@@ -43,8 +43,8 @@ public final class RefusedCallsTest {
         refused("3: 1, the TRAY", w, 1, "tray(-1, 0, 2)", "tray(4, 0, 2)");
         refused("3: 1, the sort", w, 1, "tray(0, -1, 2)", "tray(0, 4, 2)", "tray(3, 4, 2)");
         refused("3: 1, both", w, 1, "tray(4, 4, 2)", "tray(-1, -1, 2)");
-        refused("3: 5", w, 5, "tray(0, 2, 41)", "tray(3, 0, 41)");
-        refused("3: 6", w, 6, "tray(0, 2, -1)", "tray(3, 0, -1)");
+        refused("3: 5", w, 5, "tray(0, 2, 41)", "tray(0, 1, 41)", "tray(3, 0, 41)");
+        refused("3: 6", w, 6, "tray(0, 2, -1)", "tray(0, 1, -1)", "tray(3, 0, -1)");
         refused("3: 1 and 5", w, 1, "tray(4, 0, 41)", "tray(0, 4, 41)");
         refused("3: 1 and 6", w, 1, "tray(-1, 0, -1)", "tray(0, -1, -1)");
 

@@ -19,6 +19,7 @@ public final class SightTest extends SmallArchive {
         numberRefused();
         find();
         findFillsTheTray();
+        findFillsAsManyPlacesAsThereAre();
         findRefused();
         mark();
         walk();
@@ -230,6 +231,24 @@ public final class SightTest extends SmallArchive {
         c.gives("20: a short TRAY", x, x.find(0, 999, 0, 0, 1), 3);
         c.gives("20: its last place", x, x.read(1, 1), LOOSE_ITEM);
         c.gives("20: a TRAY without places", x, x.find(0, 999, 0, 0, 2), 3);
+    }
+
+    /** "as many as it has places": fewer than the three found, as many, and more. */
+    private static void findFillsAsManyPlacesAsThereAre() {
+        long[] found = {ITEM, LOOSE_ITEM, OTHER_ITEM};
+        for (int length = 0; length <= 5; length++) {
+            BoxArchive x = twoBoxes();
+            x.say(SERIES, 0, 1);
+            x.tray(0, 1, length);
+            for (int place = 0; place < length; place++) {
+                x.write(0, place, -7);
+            }
+            c.gives("20: a TRAY of " + length, x, x.find(0, 1, 0, 0, 0), 3);
+            for (int place = 0; place < length; place++) {
+                c.gives("20: a TRAY of " + length, x, x.read(0, place), place < 3 ? found[place] : -7);
+            }
+            c.refuses("20: it has become no longer", x, x.read(0, length), 4);
+        }
     }
 
     private static void findRefused() {

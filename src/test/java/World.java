@@ -44,6 +44,7 @@ final class World {
         "where(+0, 7)", "where(+0, 12)", "where(+0, 100000)",
     };
     private static final String[] LOOKS_AT_A_TRAY = {
+        "pour(+0, 0, +0, 0, 0)",
         "read(+0, 0)", "read(+0, 1)", "read(+0, 2)", "read(+0, 3)", "read(+0, 4)", "read(+0, 5)", "read(+0, 6)",
     };
     private static final String[] LOOKS_AT_A_CARRY = {
