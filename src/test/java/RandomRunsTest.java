@@ -326,7 +326,7 @@ public final class RandomRunsTest {
                 break;
             }
             case 1: {
-                if (x.status() == 3 || random.nextInt(30) == 0) {
+                if (y.status() == 3 || random.nextInt(30) == 0) {
                     int sort = pick(0, 3);
                     tell("tray", bit(x.tray(tray, sort, 8)), y.tray(tray, sort, 8), tray, sort, 8);
                     break;
